@@ -34,6 +34,7 @@ public final class CostFlow {
 
     private final Net net;
     private final Lanes lanes;
+    private final Ways ways;
     private final Router router;
     private final Prices prices;
     private final Paths paths;
@@ -46,10 +47,11 @@ public final class CostFlow {
     public CostFlow() {
         net = new Net();
         lanes = new Lanes(net);
+        ways = new Ways(net, lanes);
         router = new Router(net, lanes);
-        prices = new Prices(net, lanes);
+        prices = new Prices(net, lanes, ways);
         paths = new Paths(net, lanes, prices.values);
-        rings = new Rings(net, lanes);
+        rings = new Rings(net, lanes, ways);
         falling = new Falling(net);
         unserved = new Unserved(net);
         pairing = new Pairing();
@@ -237,8 +239,10 @@ public final class CostFlow {
         } else {
             paths.sendAll(way == 2);
         }
+        ways.gather();
         prices.measure();
         router.lessen(prices.values);
+        ways.gather();
         return BEST;
     }
 
@@ -336,7 +340,7 @@ public final class CostFlow {
 
     /**
      * Each part of an ARC as a lane of its own, and what goes on it beyond LOW. The way 2 * lane goes along a lane,
-     * 2 * lane + 1 against it. When cheap lanes are filled first, the cheapest ways of an ARC are those of THE FLOW.
+     * 2 * lane + 1 against it.
      */
     private static final class Lanes {
         final Net net;
@@ -347,9 +351,9 @@ public final class CostFlow {
         final long[] rates = new long[MOST_LANES];
         final long[] loads = new long[MOST_LANES];
         final long[] excess = new long[MOST_NODES];
-        // The ways that begin at a node: ways[heads[node]] up to, without, ways[heads[node + 1]].
+        // The ways that begin at a node: sorted[heads[node]] up to, without, sorted[heads[node + 1]].
         final int[] heads = new int[MOST_NODES + 1];
-        final int[] ways = new int[2 * MOST_LANES];
+        final int[] sorted = new int[2 * MOST_LANES];
         int count;
 
         Lanes(Net net) {
@@ -383,7 +387,7 @@ public final class CostFlow {
             for (int way = 2 * count - 1; way >= 0; way--) {
                 int node = beginOf(way);
                 heads[node]--;
-                ways[heads[node]] = way;
+                sorted[heads[node]] = way;
             }
         }
 
@@ -453,6 +457,16 @@ public final class CostFlow {
             return amount;
         }
 
+        void fillCheapFirst() {
+            for (int arc = 0; arc < net.arcs; arc++) {
+                long left = amountOn(arc) - net.lowOf(arc);
+                for (int lane = firsts[arc]; lane < firsts[arc + 1]; lane++) {
+                    loads[lane] = Math.min(left, widths[lane]);
+                    left -= loads[lane];
+                }
+            }
+        }
+
         long sumOfCosts() {
             long sum = 0;
             for (int arc = 0; arc < net.arcs; arc++) {
@@ -462,6 +476,56 @@ public final class CostFlow {
                 sum += loads[lane] * rates[lane];
             }
             return sum;
+        }
+    }
+
+    /** The WAYS to change what goes on the lanes: along each ARC where it costs least, against it where that saves most. */
+    private static final class Ways {
+        final Net net;
+        final Lanes lanes;
+        final int[] numbers = new int[2 * MOST_ARCS];
+        final int[] begins = new int[2 * MOST_ARCS];
+        final int[] ends = new int[2 * MOST_ARCS];
+        final long[] rates = new long[2 * MOST_ARCS];
+        int count;
+
+        Ways(Net net, Lanes lanes) {
+            this.net = net;
+            this.lanes = lanes;
+        }
+
+        void gather() {
+            count = 0;
+            for (int arc = 0; arc < net.arcs; arc++) {
+                gatherAlong(arc);
+                gatherAgainst(arc);
+            }
+        }
+
+        private void gatherAlong(int arc) {
+            for (int lane = lanes.firsts[arc]; lane < lanes.firsts[arc + 1]; lane++) {
+                if (lanes.loads[lane] < lanes.widths[lane]) {
+                    add(2 * lane);
+                    return;
+                }
+            }
+        }
+
+        private void gatherAgainst(int arc) {
+            for (int lane = lanes.firsts[arc + 1] - 1; lane >= lanes.firsts[arc]; lane--) {
+                if (lanes.loads[lane] > 0) {
+                    add(2 * lane + 1);
+                    return;
+                }
+            }
+        }
+
+        private void add(int way) {
+            numbers[count] = way;
+            begins[count] = lanes.beginOf(way);
+            ends[count] = lanes.endOf(way);
+            rates[count] = lanes.rateOf(way);
+            count++;
         }
     }
 
@@ -559,7 +623,7 @@ public final class CostFlow {
 
         private void queueNeighbours(int node) {
             for (int index = lanes.heads[node]; index < lanes.heads[node + 1]; index++) {
-                int way = lanes.ways[index];
+                int way = lanes.sorted[index];
                 int end = lanes.endOf(way);
                 long room = open[way >> 1] ? lanes.roomOf(way) : 0;
                 if (room > 0 && via[end] == UNSEEN) {
@@ -580,12 +644,14 @@ public final class CostFlow {
     private static final class Prices {
         final Net net;
         final Lanes lanes;
+        final Ways ways;
         final long[] values = new long[MOST_NODES];
         final long[] distances = new long[MOST_NODES];
 
-        Prices(Net net, Lanes lanes) {
+        Prices(Net net, Lanes lanes, Ways ways) {
             this.net = net;
             this.lanes = lanes;
+            this.ways = ways;
         }
 
         /** Prices under which no ENDLESS lane has a cost that falls; false when there are none, for THE RING. */
@@ -618,9 +684,8 @@ public final class CostFlow {
         }
 
         boolean areProof() {
-            for (int way = 0; way < 2 * lanes.count; way++) {
-                long value = values[lanes.beginOf(way)] + lanes.rateOf(way);
-                if (lanes.roomOf(way) > 0 && values[lanes.endOf(way)] > value) {
+            for (int way = 0; way < ways.count; way++) {
+                if (values[ways.ends[way]] > values[ways.begins[way]] + ways.rates[way]) {
                     return false;
                 }
             }
@@ -655,12 +720,12 @@ public final class CostFlow {
             return distances[to];
         }
 
-        private void lowerAll(long[] costs, int leftOut) {
+        private void lowerAll(long[] costs, int laneLeftOut) {
             boolean lower = true;
             for (int round = 0; lower && round < net.nodes; round++) {
                 lower = false;
-                for (int way = 0; way < 2 * lanes.count; way++) {
-                    if (way >> 1 != leftOut && lanes.roomOf(way) > 0 && lowerBy(way, costs)) {
+                for (int way = 0; way < ways.count; way++) {
+                    if (ways.numbers[way] >> 1 != laneLeftOut && lowerBy(way, costs)) {
                         lower = true;
                     }
                 }
@@ -668,12 +733,11 @@ public final class CostFlow {
         }
 
         private boolean lowerBy(int way, long[] costs) {
-            int end = lanes.endOf(way);
-            long before = costs[lanes.beginOf(way)];
-            if (before == FAR || before + lanes.rateOf(way) >= costs[end]) {
+            long before = costs[ways.begins[way]];
+            if (before == FAR || before + ways.rates[way] >= costs[ways.ends[way]]) {
                 return false;
             }
-            costs[end] = before + lanes.rateOf(way);
+            costs[ways.ends[way]] = before + ways.rates[way];
             return true;
         }
     }
@@ -762,7 +826,7 @@ public final class CostFlow {
 
         private void goOn(int node, long amount) {
             for (int index = lanes.heads[node]; index < lanes.heads[node + 1]; index++) {
-                int way = lanes.ways[index];
+                int way = lanes.sorted[index];
                 long room = lanes.roomOf(way);
                 int end = lanes.endOf(way);
                 if (room < amount || done[end]) {
@@ -789,22 +853,23 @@ public final class CostFlow {
     private static final class Rings {
         final Net net;
         final Lanes lanes;
-        final int[] usable = new int[2 * MOST_LANES];
+        final Ways ways;
         // Of walks of so many ways to a node the least cost, and the last way of the one that has it.
         final long[] costs = new long[(MOST_NODES + 1) * MOST_NODES];
         final int[] lasts = new int[(MOST_NODES + 1) * MOST_NODES];
         final int[] trail = new int[MOST_NODES];
         final int[] metAt = new int[MOST_NODES];
-        int count;
 
-        Rings(Net net, Lanes lanes) {
+        Rings(Net net, Lanes lanes, Ways ways) {
             this.net = net;
             this.lanes = lanes;
+            this.ways = ways;
         }
 
         void cancelAll() {
+            lanes.fillCheapFirst();
             for (int turn = 0; turn < TURNS; turn++) {
-                listUsable();
+                ways.gather();
                 walk();
                 int end = endOfSteepest();
                 if (end == NONE) {
@@ -814,34 +879,23 @@ public final class CostFlow {
             }
         }
 
-        private void listUsable() {
-            count = 0;
-            for (int way = 0; way < 2 * lanes.count; way++) {
-                if (lanes.roomOf(way) > 0) {
-                    usable[count] = way;
-                    count++;
-                }
-            }
-        }
-
         private void walk() {
-            Arrays.fill(costs, FAR);
-            for (int node = 0; node < net.nodes; node++) {
-                costs[node] = 0;
+            for (int place = 0; place < (net.nodes + 1) * MOST_NODES; place++) {
+                costs[place] = place < MOST_NODES ? 0 : FAR;
             }
             for (int step = 1; step <= net.nodes; step++) {
-                for (int index = 0; index < count; index++) {
-                    stepOn(usable[index], step);
-                }
+                walkOn((step - 1) * MOST_NODES, step * MOST_NODES);
             }
         }
 
-        private void stepOn(int way, int step) {
-            long before = costs[(step - 1) * MOST_NODES + lanes.beginOf(way)];
-            int place = step * MOST_NODES + lanes.endOf(way);
-            if (before != FAR && before + lanes.rateOf(way) < costs[place]) {
-                costs[place] = before + lanes.rateOf(way);
-                lasts[place] = way;
+        private void walkOn(int before, int after) {
+            for (int way = 0; way < ways.count; way++) {
+                long cost = costs[before + ways.begins[way]];
+                int place = after + ways.ends[way];
+                if (cost != FAR && cost + ways.rates[way] < costs[place]) {
+                    costs[place] = cost + ways.rates[way];
+                    lasts[place] = ways.numbers[way];
+                }
             }
         }
 
@@ -982,8 +1036,9 @@ public final class CostFlow {
         }
 
         private void measureTo(int goal, int most) {
-            Arrays.fill(costs, FAR);
-            costs[goal] = 0;
+            for (int place = 0; place < (most + 1) * MOST_NODES; place++) {
+                costs[place] = place == goal ? 0 : FAR;
+            }
             for (int step = 1; step <= most; step++) {
                 for (int arc = 0; arc < net.arcs; arc++) {
                     long rest = costs[(step - 1) * MOST_NODES + net.tos[arc]];
