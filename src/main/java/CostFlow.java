@@ -479,7 +479,7 @@ public final class CostFlow {
         }
     }
 
-    /** The WAYS to change what goes on the lanes: along each ARC where it costs least, against it where that saves most. */
+    /** The WAYS to change what goes on the lanes: along an ARC at least cost, against it where that saves most. */
     private static final class Ways {
         final Net net;
         final Lanes lanes;

@@ -11,6 +11,8 @@ public final class OracleTest {
     private static final long FAR = Long.MAX_VALUE / 4;
     private static int wrong = 0;
     private static final int[] met = new int[3];
+    private static CostFlow used = new CostFlow();
+    private static int made = 0;
 
     private static void due(String what, long got, long want) {
         if (got != want) {
@@ -61,7 +63,16 @@ public final class OracleTest {
     private static final class Case {
         final List<Long> supplies = new ArrayList<>();
         final List<Arc> arcs = new ArrayList<>();
-        final CostFlow x = new CostFlow();
+        final CostFlow x = usedOrNew();
+
+        /** Nearly always the object of the nets before it, so that what they left behind would show. */
+        private static CostFlow usedOrNew() {
+            if (++made % 100 == 0) {
+                used = new CostFlow();
+            }
+            used.clear();
+            return used;
+        }
 
         void node(long supply) {
             due("node", x.node(supply), supplies.size());
@@ -146,6 +157,31 @@ public final class OracleTest {
             supplies[from] += amount;
             supplies[to] -= kind == 0 ? 0 : amount;
         }
+    }
+
+    /** The same net with something else told. */
+    private static void alter(Case c, Random random) {
+        int number = random.nextInt(c.arcs.size());
+        Arc arc = c.arcs.get(number);
+        int kind = random.nextInt(4);
+        if (kind == 0) {
+            long mark = (arc.marks.isEmpty() ? arc.low : arc.marks.get(arc.marks.size() - 1)) + 1;
+            c.piece(number, mark, Math.min(1000000, arc.last() + random.nextInt(3)));
+        } else if (kind == 1 && arc.marks.isEmpty()) {
+            arc.rates.set(0, (long) random.nextInt(9) - 2);
+            due("price", c.x.price(number, arc.last()) ? 1 : 0, 1);
+        } else if (kind == 2) {
+            c.arc(arc.to, arc.from, 0, random.nextInt(4), random.nextInt(9) - 4);
+        } else {
+            changeSupply(c, arc.from, 1);
+            changeSupply(c, arc.to, -1);
+        }
+    }
+
+    private static void changeSupply(Case c, int node, int by) {
+        long before = c.supplies.get(node);
+        due("supply", c.x.supply(node, before + by), before);
+        c.supplies.set(node, before + by);
     }
 
     // ---- what the document asks, found by trying everything ----
@@ -502,7 +538,12 @@ public final class OracleTest {
 
     private static void small(int seed, int nodes, int arcs, int size, boolean flows) {
         Random random = new Random(seed);
-        compare(seed, byChance(random, nodes, arcs, size, 4), random, flows);
+        Case c = byChance(random, nodes, arcs, size, 4);
+        compare(seed, c, random, flows);
+        for (int turn = 0; turn < 2; turn++) {
+            alter(c, random);
+            compare(seed, c, random, false);
+        }
     }
 
     private static void compare(int seed, Case c, Random random, boolean flows) {

@@ -316,6 +316,37 @@ public final class PromiseTest {
         due(9, "not BEST", x.on(0), NONE);
     }
 
+    private static void greatAmounts() {
+        for (int way = 0; way < 3; way++) {
+            CostFlow x = new CostFlow();
+            x.node(-1000000);
+            x.node(1000000);
+            for (int k = 0; k < 78; k++) {
+                x.arc(0, 1, k % 2 == 0 ? 1000000 : 0, 1000000, -1000000);
+            }
+            x.arc(1, 0, 0, 999999, 1000000);
+            x.arc(1, 0, 0, ENDLESS, 999999);
+            due(9, "run", x.run(way), 0);
+            due(9, "all come back on one", x.on(79), 79000000);
+            due(9, "the dearer one", x.on(78), 0);
+            due(8, "cost()", x.cost(), 79000000L * 999999 - 78000000L * 1000000);
+            due(11, "check()", x.check(), 1);
+            x.clear();
+            x.node(0);
+            x.node(0);
+            x.arc(0, 1, 0, ENDLESS, -1000000);
+            x.arc(1, 0, 0, ENDLESS, -1000000);
+            x.piece(0, 1000000, 1000000);
+            x.piece(1, 999999, 0);
+            due(9, "run", x.run(way), 0);
+            due(9, "up to where it does not fall", x.on(1), 1000000);
+            due(8, "cost()", x.cost(), -1999999000000L);
+            due(10, "potential(0)", x.potential(0), 0);
+            due(10, "potential(1)", x.potential(1), 0);
+            due(14, "span with pieces", x.span(1, 0), NO_SPAN);
+        }
+    }
+
     private static void potentials() {
         CostFlow x = plain();
         due(10, "before a run", x.potential(0), 1);
@@ -653,6 +684,7 @@ public final class PromiseTest {
         endsInsteadOfFalling();
         costs();
         amounts();
+        greatAmounts();
         potentials();
         checks();
         rings();
