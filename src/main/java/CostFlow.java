@@ -17,11 +17,20 @@ public final class CostFlow {
     private static final long LARGEST = 1000000L;
 
     // Stands for ENDLESS in sums. THE FLOW never has so much on an ARC: supplies and LOWS bring at most 92 million,
-    // and a ring in it has an ARC that is full or not beyond its MARKS, so that rings bring at most 80 million.
+    // and a ring in it has an ARC that is full or not beyond its MARKS, so that rings bring at most 80 million. So the
+    // least cost, THE FLOW and the PRICES are the same when this is the MOST of ENDLESS ARCS.
     private static final long PLENTY = 1000000000L;
     private static final long FAR = 1L << 60;
     private static final long GREAT_AMOUNT = 1L << 26;
+
+    // Far above what any run can need, with 24 NODES and 320 lanes. Ways of fewest lanes: each of 688 ways is the one
+    // that fills 13 times at most, so below 9000. Rings of least mean: 320 of them lessen the mean by a 24th, and from
+    // 1000000 down to a 24th that is done 400 times, so below 130000. Great amounts: at most 688 of the amount at hand
+    // are left by the one twice as great and 640 come from lanes that fall, so below 1400 for each amount.
     private static final int TURNS = 1000000;
+    // Ways of least cost, one after the other, may be as many as there are units, over a hundred million. Nets by
+    // chance need below 200; where this is not enough, what is left goes by great amounts first.
+    private static final int PATIENCE = 10000;
 
     private static final long NO_SUPPLY = NONE - LARGEST;
     private static final long NO_BOUND = ENDLESS - 1000000000L;
@@ -237,7 +246,10 @@ public final class CostFlow {
         if (way == 1) {
             rings.cancelAll();
         } else {
-            paths.sendAll(way == 2);
+            lanes.unload();
+            if (way == 2 || !paths.sendOneByOne()) {
+                paths.sendGreatFirst();
+            }
         }
         ways.gather();
         prices.measure();
@@ -742,7 +754,10 @@ public final class CostFlow {
         }
     }
 
-    /** Ways of least cost, one after the other; when wanted, only those for great amounts at first. */
+    /**
+     * Ways of least cost, one after the other; when wanted, only those for great amounts at first. They begin with
+     * prices under which no ENDLESS lane falls, so that only lanes that end need to be filled.
+     */
     private static final class Paths {
         final Net net;
         final Lanes lanes;
@@ -759,12 +774,17 @@ public final class CostFlow {
             this.prices = prices;
         }
 
-        /** Begins with prices under which no ENDLESS lane falls, so that only lanes that end need to be filled. */
-        void sendAll(boolean greatFirst) {
-            lanes.unload();
-            for (long amount = greatFirst ? GREAT_AMOUNT : 1; amount > 0; amount >>= 1) {
+        /** Whether all has gone; else what has gone, went at least cost. */
+        boolean sendOneByOne() {
+            useFalling(1);
+            return sendAtLeast(1, PATIENCE);
+        }
+
+        /** Goes on from what has gone at least cost, if anything has. */
+        void sendGreatFirst() {
+            for (long amount = GREAT_AMOUNT; amount > 0; amount >>= 1) {
                 useFalling(amount);
-                sendAtLeast(amount);
+                sendAtLeast(amount, TURNS);
             }
         }
 
@@ -778,15 +798,17 @@ public final class CostFlow {
             }
         }
 
-        private void sendAtLeast(long amount) {
-            for (int turn = 0; turn < TURNS; turn++) {
+        /** Whether no more ways for the amount were left within so many turns. */
+        private boolean sendAtLeast(long amount, int turns) {
+            for (int turn = 0; turn < turns; turn++) {
                 int node = nearestInNeed(amount);
                 if (node == NONE) {
-                    return;
+                    return true;
                 }
                 raisePrices(distances[node] >> 5);
                 lanes.sendTo(node, via, Math.min(carried[node], -lanes.excess[node]));
             }
+            return false;
         }
 
         private int nearestInNeed(long amount) {
