@@ -606,6 +606,88 @@ public final class OracleTest {
         }
     }
 
+    // ---- nets in which ways of least cost, one after the other, carry one unit each ----
+
+    private static long[] stepped(int from, int to, long width, int parts, long rate, long step) {
+        return new long[] {from, to, 0, width * parts, rate, width, step};
+    }
+
+    /**
+     * Round a net that is full after some units, at rising costs, two nodes more: straight through it, then against
+     * it, and so on in turn, so that it is filled and emptied again, a unit at a time. Answers how many units go, and
+     * the last two nodes.
+     */
+    private static long[] manyWays(Random random, int levels, List<long[]> arcs, int[] number) {
+        int most = random.nextInt(3) == 0 ? 4 : 1 + random.nextInt(4);
+        long units = most;
+        long costs = units;
+        int begin = number[0];
+        int end = number[1];
+        arcs.add(stepped(begin, end, 1, most, 0, 1));
+        for (int level = 1; level <= levels; level++) {
+            int parts = (int) Math.min(most, Math.min(1000000 / units, 1000000 / (costs + 1)));
+            if (parts == 0) {
+                break;
+            }
+            arcs.add(stepped(number[2 * level], begin, units, parts, 0, costs + 1));
+            arcs.add(stepped(end, number[2 * level + 1], units, parts, 0, costs + 1));
+            arcs.add(stepped(number[2 * level], end, units, parts, costs, costs + 1));
+            arcs.add(stepped(begin, number[2 * level + 1], units, parts, costs, costs + 1));
+            begin = number[2 * level];
+            end = number[2 * level + 1];
+            units *= 2L * parts;
+            costs = 2 * (costs + (parts - 1) * (costs + 1)) + 1;
+        }
+        return new long[] {units, begin, end};
+    }
+
+    private static Case manyWaysByChance(Random random, int levels) {
+        int nodes = 2 * levels + 2;
+        int[] number = new int[nodes];
+        for (int k = 0; k < nodes; k++) {
+            int other = random.nextInt(k + 1);
+            number[k] = number[other];
+            number[other] = k;
+        }
+        List<long[]> arcs = new ArrayList<>();
+        long[] core = manyWays(random, levels, arcs, number);
+        long units = core[0];
+        long left = random.nextInt(4) == 0 ? 1 + random.nextInt((int) units) : units;
+        long supply = random.nextInt(3) == 0 ? 0 : Math.min(left, 1000000);
+        for (left -= supply; left > 0; left -= Math.min(left, 1000000)) {
+            // What must come back from the end goes through the net as well.
+            arcs.add(new long[] {core[2], core[1], Math.min(left, 1000000), 1000000, 5, 1000000, 0});
+        }
+        for (int k = arcs.size() - 1; k > 0; k--) {
+            long[] arc = arcs.get(k);
+            int other = random.nextInt(k + 1);
+            arcs.set(k, arcs.get(other));
+            arcs.set(other, arc);
+        }
+        Case c = new Case();
+        for (int node = 0; node < nodes; node++) {
+            c.node(node == core[1] ? supply : node == core[2] ? -supply : 0);
+        }
+        for (int k = 0; k < arcs.size(); k++) {
+            long[] arc = arcs.get(k);
+            c.arc((int) arc[0], (int) arc[1], arc[2], arc[3], arc[4]);
+            for (int part = 1; part * arc[5] < arc[3]; part++) {
+                c.piece(k, part * arc[5], arc[4] + part * arc[6]);
+            }
+        }
+        return c;
+    }
+
+    private static void many(int seed, int levels) {
+        Random random = new Random(seed);
+        Case c = manyWaysByChance(random, levels);
+        for (int way = 0; way < 3; way++) {
+            String name = "many ways " + seed + " way " + way;
+            due(name, c.x.run(way), 0);
+            checkBest(name, c, random);
+        }
+    }
+
     // ---- assignments ----
 
     private static long leastSum;
@@ -665,6 +747,9 @@ public final class OracleTest {
         for (int seed = 9000; seed < 9500; seed++) {
             large(seed, 1000000, 1000000);
             large(seed + 1000, 20, 3);
+        }
+        for (int seed = 0; seed < 120; seed++) {
+            many(seed, 1 + seed % 11);
         }
         for (int seed = 0; seed < 1000; seed++) {
             pairing(seed);
