@@ -573,6 +573,163 @@ public final class OracleTest {
         }
     }
 
+    // ---- THE SET and THE RING of nets that are too large for trying everything ----
+
+    /** What can still be reached from where there is too much, once as much as can go has gone. */
+    private static int largeSetOf(Case c) {
+        int nodes = c.supplies.size();
+        long[] left = new long[nodes];
+        long[][] room = new long[nodes][nodes];
+        long total = 0;
+        for (int node = 0; node < nodes; node++) {
+            left[node] = c.supplies.get(node);
+            total += left[node];
+        }
+        for (Arc arc : c.arcs) {
+            left[arc.from] -= arc.low;
+            left[arc.to] += arc.low;
+            room[arc.from][arc.to] += arc.endless() ? FAR / 100 : arc.most - arc.low;
+        }
+        if (total != 0) {
+            return (1 << nodes) - 1;
+        }
+        int members = reach(left, room);
+        while (members < 0) {
+            members = reach(left, room);
+        }
+        return members;
+    }
+
+    /** Sends something to where it lacks and answers -1; where nothing can go, answers what was reached, as bits. */
+    private static int reach(long[] left, long[][] room) {
+        int nodes = left.length;
+        int[] before = new int[nodes];
+        Arrays.fill(before, -2);
+        List<Integer> order = new ArrayList<>();
+        for (int node = 0; node < nodes; node++) {
+            if (left[node] > 0) {
+                before[node] = -1;
+                order.add(node);
+            }
+        }
+        int members = 0;
+        for (int k = 0; k < order.size(); k++) {
+            int node = order.get(k);
+            members |= 1 << node;
+            if (left[node] < 0) {
+                sendTo(node, before, left, room);
+                return -1;
+            }
+            for (int next = 0; next < nodes; next++) {
+                if (room[node][next] > 0 && before[next] == -2) {
+                    before[next] = node;
+                    order.add(next);
+                }
+            }
+        }
+        return members;
+    }
+
+    private static void sendTo(int node, int[] before, long[] left, long[][] room) {
+        long amount = -left[node];
+        int at = node;
+        for (; before[at] >= 0; at = before[at]) {
+            amount = Math.min(amount, room[before[at]][at]);
+        }
+        amount = Math.min(amount, left[at]);
+        left[at] -= amount;
+        left[node] += amount;
+        for (at = node; before[at] >= 0; at = before[at]) {
+            room[before[at]][at] -= amount;
+            room[at][before[at]] += amount;
+        }
+    }
+
+    private static long triesLeft;
+
+    /** The rest of a ring of so many ARCS, lowest numbers first; the first that is found is THE RING. */
+    private static boolean findRest(Case c, List<Integer> ring, int at, int seen, int length, long sum) {
+        Arc first = c.arcs.get(ring.get(0));
+        if (ring.size() == length) {
+            return at == first.from && sum < 0;
+        }
+        for (int k = ring.get(0) + 1; k < c.arcs.size() && triesLeft > 0; k++) {
+            Arc arc = c.arcs.get(k);
+            boolean last = ring.size() == length - 1;
+            if (arc.endless() && arc.from == at && (last ? arc.to == first.from : (seen >> arc.to & 1) == 0)) {
+                triesLeft--;
+                ring.add(k);
+                if (findRest(c, ring, arc.to, seen | 1 << arc.to, length, sum + arc.last())) {
+                    return true;
+                }
+                ring.remove(ring.size() - 1);
+            }
+        }
+        return false;
+    }
+
+    /** THE RING; null when there are too many to try. */
+    private static List<Integer> largeRingOf(Case c) {
+        triesLeft = 100000;
+        for (int length = 2; length <= c.supplies.size(); length++) {
+            for (int k = 0; k < c.arcs.size() && triesLeft > 0; k++) {
+                Arc arc = c.arcs.get(k);
+                List<Integer> ring = new ArrayList<>(List.of(k));
+                if (arc.endless() && findRest(c, ring, arc.to, 1 << arc.from | 1 << arc.to, length, arc.last())) {
+                    return ring;
+                }
+            }
+        }
+        return null;
+    }
+
+    private static int ringsTried = 0;
+
+    private static void checkLargeRing(String name, Case c) {
+        long sum = 0;
+        for (int k = 0; k < c.x.told(3); k++) {
+            Arc arc = c.arcs.get(c.x.ring(k));
+            due(name + " follows", arc.to, c.arcs.get(c.x.ring((k + 1) % c.x.told(3))).from);
+            sum += arc.last();
+        }
+        due(name + " falls", sum < 0 ? 1 : 0, 1);
+        List<Integer> ring = largeRingOf(c);
+        if (ring != null) {
+            ringsTried++;
+            checkNotBest(name, c, 0, ring);
+        }
+    }
+
+    /** Two ARCS or more from each node to one of the next, ENDLESS all: long rings, and many of them. */
+    private static void largeRings(int seed) {
+        Random random = new Random(seed);
+        Case c = new Case();
+        int nodes = 9 + random.nextInt(16);
+        int wide = 1 + random.nextInt(4);
+        int highest = 2 + random.nextInt(12);
+        for (int node = 0; node < nodes; node++) {
+            c.node(0);
+        }
+        for (int k = nodes * 2 + random.nextInt(20); k > 0; k--) {
+            int from = random.nextInt(nodes);
+            c.arc(from, (from + 1 + random.nextInt(wide)) % nodes, 0, ENDLESS, random.nextInt(highest) - 1);
+        }
+        int want = largeRingOf(c) == null ? 0 : 1;
+        if (triesLeft == 0) {
+            return;
+        }
+        met[want]++;
+        for (int way = 0; way < 3; way++) {
+            String name = "large ring " + seed + " way " + way;
+            due(name, c.x.run(way), want);
+            if (want == 1) {
+                checkLargeRing(name, c);
+            } else {
+                checkBest(name, c, random);
+            }
+        }
+    }
+
     private static void large(int seed, int size, int cost) {
         Random random = new Random(seed);
         int nodes = 2 + random.nextInt(23);
@@ -586,19 +743,9 @@ public final class OracleTest {
             if (want == 0) {
                 checkBest(name, c, random);
             } else if (want == 1) {
-                long sum = 0;
-                for (int k = 0; k < c.x.told(3); k++) {
-                    Arc arc = c.arcs.get(c.x.ring(k));
-                    due(name + " follows", arc.to, c.arcs.get(c.x.ring((k + 1) % c.x.told(3))).from);
-                    sum += arc.last();
-                }
-                due(name + " falls", sum < 0 ? 1 : 0, 1);
+                checkLargeRing(name, c);
             } else {
-                int members = 0;
-                for (int k = 0; k < c.x.told(4); k++) {
-                    members |= 1 << c.x.set(k);
-                }
-                due(name + " has excess", members == (1 << nodes) - 1 || excessOf(c, members) > 0 ? 1 : 0, 1);
+                checkNotBest(name, c, largeSetOf(c), null);
             }
         }
         if (want == 0) {
@@ -748,15 +895,19 @@ public final class OracleTest {
             large(seed, 1000000, 1000000);
             large(seed + 1000, 20, 3);
         }
+        for (int seed = 30000; seed < 30300; seed++) {
+            largeRings(seed);
+        }
         for (int seed = 0; seed < 120; seed++) {
             many(seed, 1 + seed % 11);
         }
         for (int seed = 0; seed < 1000; seed++) {
             pairing(seed);
         }
-        System.out.println("nets by chance: " + met[0] + " BEST, " + met[1] + " FALLS, " + met[2] + " CAN'T");
+        System.out.println("nets by chance: " + met[0] + " BEST, " + met[1] + " FALLS, " + met[2] + " CAN'T; "
+            + ringsTried + " rings of large ones");
         System.out.println(wrong == 0 ? "all answers are as due" : wrong + " answers are not as due");
-        if (wrong != 0 || met[0] < 5000 || met[1] < 1000 || met[2] < 3000) {
+        if (wrong != 0 || met[0] < 5000 || met[1] < 1000 || met[2] < 3000 || ringsTried < 100) {
             System.exit(1);
         }
     }

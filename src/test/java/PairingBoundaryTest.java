@@ -81,7 +81,7 @@ public final class PairingBoundaryTest extends Boundary {
         for (int n = 1; n <= 8; n++) {
             for (int before : new int[] {1, n, 8}) {
                 CostFlow x = full(before, 1);
-                due("BEFORE", x.least(), before);
+                due("least() of the one before", x.least(), before);
                 due("assign(" + n + ")", x.assign(n), true);
                 dueNoMates("barred again", x, n);
                 for (int i = 1; i < n; i++) {
@@ -186,18 +186,14 @@ public final class PairingBoundaryTest extends Boundary {
     static void promise18_twoThatWantTheSame() {
         CostFlow x = new CostFlow();
         x.assign(3);
-        putRow(x, 0, 0, 0);
-        putRow(x, 1, 0, 0);
+        x.put(0, 0, 0);
+        x.put(1, 0, 0);
         x.put(2, 0, 0);
         x.put(2, 1, 0);
         x.put(2, 2, 0);
         dueNoMates("0 and 1 want the same", x, 3);
         x.put(1, 1, 0);
         dueMates("1 has another", x, 0, 0, 1, 2);
-    }
-
-    private static void putRow(CostFlow x, int i, int j, long cost) {
-        due("put", x.put(i, j, cost), true);
     }
 
     static void promise18_0HasTheLowestThen1() {

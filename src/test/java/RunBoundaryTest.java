@@ -1,3 +1,5 @@
+import java.util.Arrays;
+
 /** Promises 7 to 15, and what "Terms" says of FLOWS, at their edges: each net by all three ways. */
 public final class RunBoundaryTest extends Boundary {
 
@@ -292,7 +294,7 @@ public final class RunBoundaryTest extends Boundary {
             arc(x, 1, 0, 1000000, 1000000, 0);
         }
         long[] on = new long[80];
-        java.util.Arrays.fill(on, 1000000);
+        Arrays.fill(on, 1000000);
         on[79] = 80000000;
         arc(x, 0, 1, 0, ENDLESS, 1000000);
         dueFlow("80 million", x, 80000000000000L, on);
@@ -375,6 +377,23 @@ public final class RunBoundaryTest extends Boundary {
         }
     }
 
+    static void promise10_80ArcsThatGoBothWays() {
+        CostFlow x = nodesOf(800000, -800000);
+        for (int k = 0; k < 80; k++) {
+            due("arc", x.arc(0, 1, 0, 20000, 3), k);
+            due("piece", x.piece(k, 10000, 8), 1);
+        }
+        for (int way = 0; way < 3; way++) {
+            due("run", x.run(way), 0);
+            due("potential(0), by the last unit", x.potential(0), -3);
+            due("potential(1)", x.potential(1), 0);
+            due("check()", x.check(), 1);
+            for (int k = 0; k < 80; k++) {
+                due("on(" + k + ")", x.on(k), 10000);
+            }
+        }
+    }
+
     // ---- promise 11 ----
 
     static void promise11_noneWhenItIsNotBest() {
@@ -445,6 +464,24 @@ public final class RunBoundaryTest extends Boundary {
             dueRuns("far below 0", x, 1);
             due("told(3)", x.told(3), 24);
         }
+    }
+
+    static void promise12_ofTheFullNet() {
+        CostFlow x = nodes(24);
+        for (int k = 0; k < 80; k++) {
+            int from = k % 24;
+            long cost = k < 56 ? 10 : -5;
+            due("arc", x.arc(from, (from + 1) % 24, 0, ENDLESS, cost), k);
+            due("piece", x.piece(k, 1, cost), 1);
+            due("piece", x.piece(k, 999999, cost + 1), 2);
+            due("piece", x.piece(k, 1000000, k < 56 ? 13 : k == 79 ? -1 : 0), 3);
+        }
+        int[] ring = new int[24];
+        for (int k = 0; k < 24; k++) {
+            ring[k] = 56 + k;
+        }
+        dueRuns("the last 24 of 80", x, 1);
+        dueRing("the last 24 of 80", x, ring);
     }
 
     static void promise12_ofTwoLongOnesTheOneThatComesFirst() {
@@ -609,7 +646,7 @@ public final class RunBoundaryTest extends Boundary {
 
     static void promise13_allButOneOf24() {
         long[] supplies = new long[24];
-        java.util.Arrays.fill(supplies, 1);
+        Arrays.fill(supplies, 1);
         supplies[23] = -23;
         CostFlow x = nodesOf(supplies);
         dueRuns("23 of 24", x, 2);
@@ -619,7 +656,7 @@ public final class RunBoundaryTest extends Boundary {
     static void promise13_allNodesWhenTogetherNot0() {
         for (long supply : new long[] {-1000000, 1000000}) {
             long[] supplies = new long[24];
-            java.util.Arrays.fill(supplies, supply);
+            Arrays.fill(supplies, supply);
             CostFlow x = nodesOf(supplies);
             dueRuns("24 million", x, 2);
             dueSet("24 million", x, upTo(24));
